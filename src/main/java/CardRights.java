@@ -721,8 +721,7 @@ public final class CardRights {
          * lesser number.
          */
         private int leastWith(int taken, int undecided, int mayTake) {
-            int reach = mayTake > 0 ? taken | (1 << undecided) - 1 : taken;
-            if (!areMetBy(reach)) {
+            if (!canBeMet(taken, (1 << undecided) - 1, mayTake)) {
                 return NONE;
             }
             if (undecided <= 0 || mayTake <= 0) {
@@ -733,13 +732,26 @@ public final class CardRights {
             return without != NONE ? without : leastWith(taken | 1 << highest, highest, mayTake - 1);
         }
 
-        private boolean areMetBy(int set) {
-            for (int i = 0; i < count; i++) {
-                if ((sets[i] & set) == 0) {
-                    return false;
+        /**
+         * False only if it is sure that the needs cannot be met: unmet ones that have no right in common
+         * want a right each. If none may be taken any more, true is sure as well.
+         */
+        private boolean canBeMet(int taken, int free, int mayTake) {
+            int spoken = 0;
+            int wanted = 0;
+            for (int i = 0; i < count && wanted <= mayTake; i++) {
+                if ((sets[i] & taken) == 0) {
+                    int choice = sets[i] & free;
+                    if (choice == 0) {
+                        return false;
+                    }
+                    if ((choice & spoken) == 0) {
+                        spoken |= choice;
+                        wanted++;
+                    }
                 }
             }
-            return true;
+            return wanted <= mayTake;
         }
     }
 }

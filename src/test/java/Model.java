@@ -57,6 +57,14 @@ final class Model {
         return 0 <= number && number < bound;
     }
 
+    /** One of a door's rooms, or room 0 if there is no such door: for runs that ask for what there is. */
+    int roomOf(int door, boolean second) {
+        if (!below(door, doors.size())) {
+            return 0;
+        }
+        return second ? doors.get(door).roomB : doors.get(door).roomA;
+    }
+
     private List<Telling> told(Kind kind, int knows) {
         List<Telling> some = new ArrayList<>();
         for (int i = 0; i < Math.min(knows, tellings.size()); i++) {

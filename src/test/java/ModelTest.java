@@ -13,6 +13,7 @@ public final class ModelTest {
     private final Model model = new Model();
     private final int pace;
     private final int crowd;
+    private final int trouble;
     private int minute = 0;
     private int rooms = 0;
     private int doors = 0;
@@ -28,6 +29,8 @@ public final class ModelTest {
         pace = 1 + random.nextInt(60);
         // Few groups and zones, so that many who ask have a right.
         crowd = 1 + random.nextInt(3);
+        // In how many cases of ten things are told that refuse cards.
+        trouble = random.nextInt(6);
     }
 
     public static void main(String[] args) {
@@ -37,21 +40,69 @@ public final class ModelTest {
         for (int run = 0; run < 20; run++) {
             new ModelTest(-1 - run).goOnForLong(run);
         }
+        for (int run = 0; run < 150; run++) {
+            new ModelTest(1000 + run).manySpans(run);
+        }
         CHECK.finish();
     }
 
     private void run(int run) {
         for (int call = 0; call < CALLS; call++) {
-            step("run " + run + ", call " + call, call < 40 ? random.nextInt(5) : random.nextInt(40));
+            step("run " + run + ", call " + call, which(run, call));
         }
+    }
+
+    /** All rights of one group for one zone, of spans that overlap, and uses all over the day. */
+    private void manySpans(int run) {
+        for (int room = 0; room < 2; room++) {
+            rights.room(0);
+            model.room(0);
+        }
+        for (int door = 0; door < 6; door++) {
+            rights.door(0, 1);
+            model.door(0, 1);
+        }
+        rights.person(0);
+        model.person(0);
+        rights.card(0, 1000000);
+        model.card(0, 1000000);
+        int width = 40 + random.nextInt(300);
+        for (int i = 0; i < 16; i++) {
+            int from = run % 2 == 0 ? random.nextInt(1440) : random.nextInt(8) * 180;
+            int to = (from + width + random.nextInt(3) * 30) % 1440;
+            rights.right(0, 0, from, to, 0);
+            model.right(0, 0, from, to, 0);
+        }
+        for (int use = 0; use < 300; use++) {
+            int door = use / 50;
+            rights.off(door, true);
+            model.off(door, true);
+            int at = use * 311 / 4;
+            CHECK.is("spans " + run + ", use " + use, rights.asks(0, door, 1, at), model.asks(0, door, 1, at));
+            if (use % 15 == 0) {
+                CHECK.is("spans " + run + ", fewest behind use " + use, rights.fewest(), model.fewest());
+            }
+        }
+        CHECK.is("spans " + run + ", fewest", rights.fewest(), model.fewest());
+        CHECK.is("spans " + run + ", uses", rights.uses(), model.uses());
+    }
+
+    /** At first things are made; some runs make few more of them, and some go on until there are as many as may be. */
+    private int which(int run, int call) {
+        if (call < 40) {
+            return call < 3 ? 0 : random.nextInt(5);
+        }
+        if (run % 4 == 0 && random.nextBoolean()) {
+            return random.nextInt(5);
+        }
+        return random.nextInt(20) == 0 ? random.nextInt(5) : 5 + random.nextInt(35);
     }
 
     /** Beyond the 512th call answers are free, but nothing may be thrown that the document does not name. */
     private void goOnForLong(int run) {
         for (int call = 0; call < 20000; call++) {
-            int which = call < 40 ? random.nextInt(5) : random.nextInt(40);
             try {
-                pick(which)[0].run();
+                pick(which(run, call))[0].run();
             } catch (RuntimeException other) {
                 CHECK.tell("long run " + run + ", call " + call, other.toString(), "an answer");
             }
@@ -85,10 +136,14 @@ public final class ModelTest {
     }
 
     private int some(int bound) {
-        if (random.nextInt(60) == 0) {
+        if (random.nextInt(150) == 0) {
             return STRANGE[random.nextInt(STRANGE.length)];
         }
         return random.nextInt(Math.max(1, bound));
+    }
+
+    private boolean isTrouble() {
+        return random.nextInt(10) < trouble;
     }
 
     private int later() {
@@ -123,15 +178,15 @@ public final class ModelTest {
         int a = some(crowd);
         int b = some(crowd);
         int from = random.nextInt(4) == 0 ? some(1440) : minute % 1440;
-        int to = random.nextInt(20) == 0 ? from : (from + random.nextInt(random.nextBoolean() ? 200 : 1440)) % 1440;
-        int since = random.nextInt(4) == 0 ? around() : 0;
+        int to = random.nextInt(20) == 0 ? from : (from + (isTrouble() ? random.nextInt(200) : 1000 + random.nextInt(440))) % 1440;
+        int since = isTrouble() ? around() : 0;
         switch (which) {
             case 0:
                 rooms = Math.min(20, rooms + 1);
                 return pair("room(" + a + ")", () -> rights.room(a), () -> model.room(a));
             case 1:
                 int roomA = some(Math.min(rooms, 5));
-                int roomB = some(Math.min(rooms, 5));
+                int roomB = random.nextInt(20) == 0 ? roomA : (roomA + 1) % Math.max(1, Math.min(rooms, 5));
                 doors = Math.min(30, doors + 1);
                 return pair("door(" + roomA + ", " + roomB + ")", () -> rights.door(roomA, roomB), () -> model.door(roomA, roomB));
             case 2:
@@ -139,7 +194,7 @@ public final class ModelTest {
                 return pair("person(" + a + ")", () -> rights.person(a), () -> model.person(a));
             case 3:
                 int person = some(persons);
-                int until = random.nextInt(3) == 0 ? around() : 1000000;
+                int until = isTrouble() ? around() + 500 : 1000000;
                 cards = Math.min(60, cards + 1);
                 return pair("card(" + person + ", " + until + ")", () -> rights.card(person, until), () -> model.card(person, until));
             default:
@@ -150,12 +205,12 @@ public final class ModelTest {
     }
 
     private Runnable[] tellSomething(int which) {
-        int door = some(doors);
+        int door = some(Math.min(doors, random.nextBoolean() ? 4 : 30));
         int other = some(doors);
-        boolean on = random.nextInt(3) == 0;
+        boolean on = isTrouble();
         int right = some(told);
         int card = some(cards);
-        int when = random.nextBoolean() ? 1000000 : around();
+        int when = isTrouble() ? around() : 1000000;
         switch (which) {
             case 5:
                 return pair("end(" + right + ", " + when + ")", () -> rights.end(right, when), () -> model.end(right, when));
@@ -171,7 +226,7 @@ public final class ModelTest {
                 return pair("state(" + door + ", " + on + ", " + at + ")",
                         () -> rights.state(door, on, at), () -> model.state(door, on, at));
             default:
-                boolean off = random.nextInt(which == 10 ? 2 : 8) != 0;
+                boolean off = random.nextInt(which == 10 ? 2 : 10) != 0;
                 return pair("off(" + door + ", " + off + ")", () -> rights.off(door, off), () -> model.off(door, off));
         }
     }
@@ -180,7 +235,7 @@ public final class ModelTest {
         int card = some(Math.min(cards, 8));
         int cardB = some(Math.min(cards, 8));
         int door = some(Math.min(doors, 4));
-        int room = some(Math.min(rooms, 5));
+        int room = random.nextInt(30) == 0 ? some(rooms) : model.roomOf(door, random.nextBoolean());
         int at = later();
         if (which < 24) {
             return pair("asks(" + card + ", " + door + ", " + room + ", " + at + ")",
