@@ -277,7 +277,7 @@ public final class CardRights {
 
     /** Of the k-th row that was against: 0 its door, 1 its card, 2 its minute, 3 why it would be refused. */
     public int found(int k, int what) throws IllegalArgumentException {
-        if (k < 0 || k >= findings.keptCount()) {
+        if (k < 0 || k >= findings.kept) {
             throw new IllegalArgumentException("no such row is kept");
         }
         if (what < 0 || what >= Findings.PARTS) {
@@ -637,20 +637,20 @@ public final class CardRights {
 
         private final int[] parts = new int[KEPT * PARTS];
         private int count = 0;
-
-        private int keptCount() {
-            return Math.min(count, KEPT);
-        }
+        /** Counted by itself, so that the places in 'parts' do not hang on a count that has no bound. */
+        private int kept = 0;
 
         private void add(int door, int card, int minute, int why) {
-            if (count < KEPT) {
-                int at = count * PARTS;
-                parts[at] = door;
-                parts[at + 1] = card;
-                parts[at + 2] = minute;
-                parts[at + 3] = why;
-            }
             count++;
+            if (kept >= KEPT) {
+                return;
+            }
+            int at = kept * PARTS;
+            parts[at] = door;
+            parts[at + 1] = card;
+            parts[at + 2] = minute;
+            parts[at + 3] = why;
+            kept++;
         }
     }
 
